@@ -569,7 +569,6 @@ public final class BoxedHeirs {
     private static final class Realm {
         int rustEach;
         int boxes;
-        int nestings;
         int regents;
         final int[] tune = new int[MOST_BOXES];
         final int[] hook = new int[MOST_BOXES];
@@ -581,14 +580,12 @@ public final class BoxedHeirs {
         void clear() {
             rustEach = 0;
             boxes = 0;
-            nestings = 0;
             regents = 0;
         }
 
         void take(Realm other) {
             rustEach = other.rustEach;
             boxes = other.boxes;
-            nestings = other.nestings;
             regents = other.regents;
             System.arraycopy(other.tune, 0, tune, 0, MOST_BOXES);
             System.arraycopy(other.hook, 0, hook, 0, MOST_BOXES);
@@ -705,6 +702,7 @@ public final class BoxedHeirs {
         int faultKind;
         int place;
         int numberAt;
+        int nestings;
 
         int append(int letter) {
             if (count >= MOST_LETTERS) {
@@ -718,6 +716,7 @@ public final class BoxedHeirs {
         /** The number of the fault, or 0; the text is empty then. */
         int parse() {
             draft.clear();
+            nestings = 0;
             place = 0;
             faultKind = 0;
             faultAt = NONE;
@@ -777,7 +776,7 @@ public final class BoxedHeirs {
         }
 
         void readNesting() {
-            if (opens(draft.nestings >= MOST_NESTINGS)) {
+            if (opens(nestings >= MOST_NESTINGS)) {
                 int a = readNumber(0, draft.boxes - 1);
                 int b = readNumber(0, draft.boxes - 1);
                 if (faultKind == 0 && (a >= b || draft.outer[b] != NONE)) {
@@ -785,7 +784,7 @@ public final class BoxedHeirs {
                 }
                 if (closes()) {
                     draft.outer[b] = a;
-                    draft.nestings++;
+                    nestings++;
                 }
             }
         }

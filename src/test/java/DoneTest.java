@@ -285,6 +285,11 @@ public final class DoneTest {
         alone.seed(1);
         due("P15 how many are up", alone.drift(1), 1);
         due("P15 without regents one draw", alone.seed(0), 1103527590);
+        BoxedHeirs one = Dues.duchyOf("d1;b2 1 9 3;b2 0 9 3;r7;");
+        one.seed(1);
+        one.drift(1);
+        due("P15 one regent", one.regent(0, 1), 1);
+        due("P15 is drawn too", one.seed(0), 662824084);
         BoxedHeirs none = Dues.duchyOf("d1;r3;");
         none.seed(1);
         due("P15 no boxes", none.drift(60), 0);

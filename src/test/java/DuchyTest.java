@@ -11,6 +11,7 @@ public final class DuchyTest {
         faultsOfNumbers();
         faultsOfCountsAndNests();
         faultLeavesAllElse();
+        earlierTextsAreForgotten();
         duchyStartsAnew();
         toldOfAll();
         toldEnd();
@@ -55,12 +56,14 @@ public final class DuchyTest {
         due("P2 its fault", x.duchy(), -11);
         due("P2 letters behind", x.told(3), 0);
         Dues.feedAll(x, "d1;b2 1 1 1;");
-        StringBuilder blanks = new StringBuilder();
-        for (int i = 12; i < 240; i++) {
-            blanks.append(' ');
-        }
-        Dues.feedAll(x, blanks.toString());
+        Dues.feedAll(x, " ".repeat(228));
         due("P2 240 letters are read", x.duchy(), 1);
+        Dues.feedAll(x, "d1;r1" + " ".repeat(235));
+        due("P2 240 letters without an end", x.duchy(), -11);
+        due("P4 at the text's length", x.fault(), 240);
+        Dues.feedAll(x, "d1;r" + "1".repeat(236));
+        due("P2 240 letters that end in figures", x.duchy(), -12);
+        due("P4 at the first figure", x.fault(), 4);
     }
 
     private static void text(String text, int answer, int letter) {
@@ -179,6 +182,30 @@ public final class DuchyTest {
         due("P4 none again", x.fault(), Dues.NONE);
     }
 
+    private static void earlierTextsAreForgotten() {
+        BoxedHeirs x = Dues.duchyOf("d15;r1;r1;r1;r1;");
+        Dues.feedAll(x, "d1");
+        due("P3 the end", x.duchy(), -11);
+        due("P4 the end", x.fault(), 2);
+        Dues.feedAll(x, "d1;r2;r2;r2");
+        due("P3 the end again", x.duchy(), -11);
+        Dues.feedAll(x, "d1;r2;r2;r2;");
+        due("P3 three regents", x.duchy(), 0);
+        due("P5 three regents", x.told(2), 3);
+        Dues.feedAll(x, "d1;r2;r2;r2");
+        due("P3 the end, where a clause ended", x.duchy(), -11);
+        due("P4 the end, where a clause ended", x.fault(), 11);
+        String nest = "d1;b2 0 1 0;b2 0 1 0;b2 0 1 0;b2 0 1 0;b2 0 1 0;b2 0 1 0;b2 0 1 0;i0 1;i0 2;i0 3;i0 4;i0 5;i0 6;";
+        for (int i = 0; i < 2; i++) {
+            Dues.feedAll(x, nest);
+            due("P3 six nests", x.duchy(), 7);
+        }
+        Dues.feedAll(x, "d1;b2 0 1 0;b2 0 1 0;");
+        due("P3 two boxes", x.duchy(), 2);
+        due("P6 in none", x.box(1, 9), Dues.NONE);
+        due("P6 alone", x.box(0, 11), 1);
+    }
+
     private static void duchyStartsAnew() {
         BoxedHeirs x = Dues.duchyOf("d1;b2 1 9 3;b2 1 9 3;b3 0 9 3;r4;r20;");
         x.sit(1, 2);
@@ -269,6 +296,13 @@ public final class DuchyTest {
             wrap.wind(b, wrap.box(b, 0) - 1);
         }
         due("P5 soon, for all that", wrap.told(14), 1);
+        for (int late = 9999; late <= 10000; late++) {
+            BoxedHeirs edge = Dues.duchyOf("d1;b59 0 1 0;b58 0 1 0;b57 0 1 0;");
+            for (int b = 0; b < 3; b++) {
+                edge.wind(b, edge.box(b, 0) - late % edge.box(b, 0));
+            }
+            due("P5 behind " + late, edge.told(14), late == 9999 ? 9999 : Dues.NONE);
+        }
     }
 
     private static void ofBoxes() {

@@ -181,6 +181,7 @@ public final class SeenTest {
         due("P35 the book stays", x.told(12), 1);
         x.bar(1);
         due("P35 again", x.goBack(0), 1);
+        due("P35 nothing of it can be undone", x.undo(), Dues.NOT);
         due("P35 bars again", x.told(4), 3);
         due("P35 the seed again", x.seed(13), 5);
         due("P35 the other", x.goBack(1), 1);

@@ -71,6 +71,12 @@ public final class TriedTest {
         due("P17 rust in its tenth bar", rust.comes(1), Dues.NONE);
         BoxedHeirs just = Dues.duchyOf("d11;b10 0 9 3;b11 0 1 1;i0 1;");
         due("P17 just ahead of rust", just.comes(1), 11);
+        BoxedHeirs later = Dues.duchyOf("d4;b10 0 4 1;");
+        later.bar(5);
+        due("P17 rust that has come is not counted again", later.comes(0), 5);
+        BoxedHeirs fast = Dues.duchyOf("d1;b10 9 9 1;b10 0 9 1;");
+        due("P17 rust in each bar", fast.comes(0), 9);
+        due("P17 rust in each bar, a bar too late", fast.comes(1), Dues.NONE);
     }
 
     private static void inWhichOrder() {
@@ -151,6 +157,13 @@ public final class TriedTest {
         due("P21 by one", shifted.parted(7, 0), 1);
         due("P21 only the first can", shifted.parted(7, 1), 100);
         due("P21 the first is in the way of the last", shifted.parted(11, 1), 11);
+        due("P21 four figures", Dues.duchyOf("d99;b60 19 1 3;b2 1 1 3;b8 0 1 3;b8 4 1 3;").parted(15, 1), 1000);
+        // 2 and 31 meet once in 62 bars: only the sixty-first and the sixty-second are late enough
+        due("P21 by nine", Dues.duchyOf("d99;b2 0 1 3;b31 9 1 3;").parted(3, 1), 9);
+        due("P21 by nine, the first", Dues.duchyOf("d99;b31 9 1 3;b2 0 1 3;").parted(3, 1), 90);
+        due("P21 by ten", Dues.duchyOf("d99;b2 0 1 3;b31 10 1 3;").parted(3, 1), Dues.NONE);
+        due("P21 the sixty-first bar", Dues.duchyOf("d99;b2 1 1 3;b31 30 1 3;").parted(3, 0), 0);
+        due("P21 the sixtieth bar", Dues.duchyOf("d99;b2 0 1 3;b31 29 1 3;").parted(3, 0) == 0 ? 0 : 1, 1);
     }
 
     private static void partedEdges() {
@@ -210,6 +223,17 @@ public final class TriedTest {
         due("P23 by force now", z.hold(-1), 2);
         due("P23 the lighter one", z.hold(1), 1);
         due("P23 the heavier one", z.hold(2), 0);
+        BoxedHeirs all = Dues.duchyOf("d1;b9 0 9 3;b9 0 3 3;b9 0 4 3;b9 0 20 3;b9 0 8 3;b9 0 7 3;b9 0 6 3;r3;r9;r6;r8;r4;r7;");
+        int[] wants = {1, 0, 4, Dues.NONE, 3, 5, 2};
+        due("P23 six of seven", all.hold(-1), 6);
+        for (int b = 0; b < 7; b++) {
+            due("P23 of seven, " + b, all.hold(b), wants[b]);
+        }
+        Dues.feedAll(all, "d1;b9 0 3 3;b9 0 9 3;r3;r2;");
+        all.duchy();
+        due("P23 in a smaller duchy", all.hold(-1), 1);
+        due("P23 in a smaller duchy, who", all.hold(0), 0);
+        due("P23 in a smaller duchy, nobody", all.hold(1), Dues.NONE);
         BoxedHeirs none = Dues.duchyOf("d1;b60 0 1 3;");
         due("P23 no regents", none.hold(-1), 0);
         due("P23 no regent", none.hold(0), Dues.NONE);
@@ -237,6 +261,12 @@ public final class TriedTest {
         due("P24 now", x.lasts(0), 0);
         x.oil(0);
         due("P24 oiled", x.lasts(0), 21);
+        x.bar(400);
+        due("P24 now, between rust and rust", x.lasts(0), 0);
+        due("P24 once", Dues.duchyOf("d7;b2 0 1 1;").lasts(0), 7);
+        BoxedHeirs fast = Dues.duchyOf("d1;b2 0 9 1;");
+        fast.bar(3);
+        due("P24 each bar", fast.lasts(0), 6);
         due("P24 a long time", Dues.duchyOf("d99;b2 0 20 1;").lasts(0), 1980);
         due("P24 unknown", x.lasts(6), Dues.UNKNOWN);
         due("P24 unknown below", x.lasts(-1), Dues.UNKNOWN);
