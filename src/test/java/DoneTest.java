@@ -316,7 +316,7 @@ public final class DoneTest {
             look.append(x.told(what)).append(' ');
         }
         for (int b = 0; b < 3; b++) {
-            for (int what = 4; what <= 12; what++) {
+            for (int what = 4; what <= 7; what++) {
                 look.append(x.box(b, what)).append(' ');
             }
         }
@@ -327,8 +327,8 @@ public final class DoneTest {
         BoxedHeirs x = Dues.duchyOf("d2;b2 1 9 3;b2 1 9 0;b3 1 9 1;r4;r20;");
         due("P16 none", x.undo(), Dues.NOT);
         String[] looks = new String[9];
+        looks[0] = lookOf(x);
         for (int i = 0; i < 8; i++) {
-            looks[i] = lookOf(x);
             switch (i) {
                 case 0: x.bar(7); break;
                 case 1: x.sit(1, 2); break;
@@ -340,7 +340,8 @@ public final class DoneTest {
                 default: x.rise(1); break;
             }
             due("P16 kept " + i, x.told(13), i + 1);
-            due("P16 changed " + i, looks[i].equals(lookOf(x)) ? 1 : 0, 0);
+            looks[i + 1] = lookOf(x);
+            due("P16 changed " + i, looks[i].equals(looks[i + 1]) ? 1 : 0, 0);
         }
         int seed = x.seed(5);
         due("P16 drawn", seed == 0 ? 1 : 0, 0);

@@ -58,12 +58,8 @@ public final class DuchyTest {
         Dues.feedAll(x, "d1;b2 1 1 1;");
         Dues.feedAll(x, " ".repeat(228));
         due("P2 240 letters are read", x.duchy(), 1);
-        Dues.feedAll(x, "d1;r1" + " ".repeat(235));
-        due("P2 240 letters without an end", x.duchy(), -11);
-        due("P4 at the text's length", x.fault(), 240);
-        Dues.feedAll(x, "d1;r" + "1".repeat(236));
-        due("P2 240 letters that end in figures", x.duchy(), -12);
-        due("P4 at the first figure", x.fault(), 4);
+        text("d1;r1" + " ".repeat(235), -11, 240);
+        text("d1;r" + "1".repeat(236), -12, 4);
     }
 
     private static void text(String text, int answer, int letter) {

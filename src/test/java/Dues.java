@@ -6,13 +6,19 @@ final class Dues {
     static final int NOT = -1000000003;
     static final int FULL = -1000000004;
 
+    private String sentence = "";
     private int wrong;
+
+    /** The document's sentence that the answers from here on are asked for; it is told with each that is not due. */
+    void sentence(String words) {
+        sentence = "\"" + words + "\": ";
+    }
 
     void due(String call, long got, long want) {
         if (got != want) {
             wrong++;
             if (wrong <= 40) {
-                System.out.println(call + " answered " + got + ", due is " + want);
+                System.out.println(sentence + call + " answered " + got + ", due is " + want);
             }
         }
     }
@@ -40,5 +46,14 @@ final class Dues {
         feedAll(x, text);
         x.duchy();
         return x;
+    }
+
+    /** Winds a box up to a bar of its tune, from wherever it is. */
+    static void windTo(BoxedHeirs x, int b, int bar) {
+        int bars = x.box(b, 0);
+        int way = Math.floorMod(bar - x.box(b, 4), bars);
+        if (way > 0) {
+            x.wind(b, way);
+        }
     }
 }

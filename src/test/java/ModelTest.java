@@ -42,7 +42,7 @@ public final class ModelTest {
             int at = random.nextInt(100);
             if (at == 0 && calls < CALLS / 2) {
                 feedText(someText());
-            } else if (at < 3) {
+            } else if (at < 3 && calls < CALLS - 40) {
                 lookAtAll();
             } else {
                 String name = NAMES[2 + random.nextInt(NAMES.length - 2)];

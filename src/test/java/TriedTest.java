@@ -56,16 +56,19 @@ public final class TriedTest {
         x.bar(3);
         due("P17 the outer is up", x.comes(2), 1);
         BoxedHeirs deep = Dues.duchyOf("d99;b60 0 9 3;b59 58 9 3;b58 1 9 3;b57 2 9 3;b53 4 9 3;b47 5 9 3;b43 6 9 3;i0 1;i1 2;i2 3;i3 4;i4 5;i5 6;");
-        int turned = 0;
         int[] wants = new int[7];
         for (int b = 0; b < 7; b++) {
             wants[b] = deep.comes(b);
         }
-        for (int b = 0; b < 7; b++) {
-            for (; deep.box(b, 5) == 0 && turned < 420; turned++) {
+        for (int b = 0, turned = 0; b < 7; turned = wants[b], b++) {
+            if (wants[b] - turned > 1) {
+                deep.bar(wants[b] - turned - 1);
+                due("P17 dynasty " + b + ", a bar too early", deep.box(b, 5), 0);
+            }
+            if (wants[b] > turned) {
                 deep.bar(1);
             }
-            due("P17 dynasty " + b, wants[b], turned);
+            due("P17 dynasty " + b, deep.box(b, 5), 1);
         }
         BoxedHeirs rust = Dues.duchyOf("d10;b10 0 9 3;b11 0 1 1;i0 1;");
         due("P17 rust in its tenth bar", rust.comes(1), Dues.NONE);
