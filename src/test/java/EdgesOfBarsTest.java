@@ -36,6 +36,7 @@ public final class EdgesOfBarsTest {
         told();
         toldOfBoxes();
         toldOfRegents();
+        largestDuchy();
         bar();
         barIsFull();
         wind();
@@ -63,6 +64,12 @@ public final class EdgesOfBarsTest {
             }
         }
         due("told(8)", x.told(8), 0);
+        BoxedHeirs seven = Dues.duchyOf(NEST);
+        for (int b = 0; b < 7; b++) {
+            for (int what = 4; what <= 7; what++) {
+                due("box(" + b + ", " + what + ") of seven", seven.box(b, what), 0);
+            }
+        }
         due("at its catch from the first, it is down all the same", x.told(5), 0);
         due("and that is no thud", x.told(10), 0);
     }
@@ -405,6 +412,9 @@ public final class EdgesOfBarsTest {
             due("push(" + b + ") of a nest", x.push(b), 7 - b);
             due("who is up yet", x.told(5), (1 << b) - 1);
             due("who sways yet", x.told(6), (1 << b) - 1);
+            for (int c = 0; c < 7; c++) {
+                due("for how many bars " + c + " sways yet", x.box(c, 6), c < b ? 20 + 3 * c : 0);
+            }
         }
     }
 
@@ -466,6 +476,36 @@ public final class EdgesOfBarsTest {
         due("regent(0, 1)", x.regent(0, 1), Dues.NONE);
         due("regent(0, -1)", x.regent(0, -1), Dues.OUTSIDE);
         due("regent(0, 2)", x.regent(0, 2), Dues.OUTSIDE);
+    }
+
+    private static void largestDuchy() {
+        DUES.sentence("7 BOXES at most .. 6 REGENTS at most (told of as many as can be)");
+        BoxedHeirs x = Dues.duchyOf("d1;" + "b2 1 20 3;".repeat(7) + "i0 1;i1 2;i2 3;i3 4;i4 5;i5 6;r30;r21;r20;r20;r19;r1;");
+        due("bar(1)", x.bar(1), 7);
+        for (int r = 0; r < 6; r++) {
+            due("nobody sits by rust, " + r, x.regent(r, 1), Dues.NONE);
+            due("sit(" + r + ", " + (r + 1) + ")", x.sit(r, r + 1), Dues.NONE);
+        }
+        for (int b = 0; b < 7; b++) {
+            x.damp(b, true);
+            due("rust of " + b, x.box(b, 7), 1);
+            due("weights on " + b, x.box(b, 12), b == 0 ? 0 : x.regent(b - 1, 0));
+        }
+        int[] wants = {1, 7, 6, 0, 1, 127, 127, 2 | 4 | 8 | 16, 127, 21, 0, 0, 0, 14, 1};
+        for (int what = 0; what < wants.length; what++) {
+            due("told(" + what + ")", x.told(what), wants[what]);
+        }
+        x.bar(20);
+        for (int r = 0; r < 6; r++) {
+            due("he sits where he sat, " + r, x.regent(r, 1), r + 1);
+        }
+        due("push(0)", x.push(0), 7);
+        due("bar(2)", x.bar(2), 1);
+        due("thuds of the six within: held, or in one who is down", x.told(10), 6);
+        due("rust of the last", x.box(6, 7), 20);
+        due("nobody sways by rust", x.told(6), 1);
+        x.oil(6);
+        due("oil(6) leaves the regents", x.regent(0, 1), 1);
     }
 
     private static void bar() {

@@ -238,6 +238,12 @@ public final class EdgesOfNotesTest {
         due("catches(9)", x.catches(9), 511);
         due("judge()", x.judge(), Dues.NONE);
         due("tear() again", x.tear(), 0);
+        for (int i = 0; i < 6; i++) {
+            x.see(0, true);
+        }
+        x.tear();
+        x.see(0, false);
+        due("what lifted ahead is forgotten", x.catches(9), 511 - 7);
         due("tear() without a duchy", new BoxedHeirs().tear(), 0);
     }
 

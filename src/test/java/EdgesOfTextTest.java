@@ -44,6 +44,7 @@ public final class EdgesOfTextTest {
         feeding();
         duchyEmptiesTheText();
         duchyBeginsAnew();
+        textsCountForThemselves();
         faultLeavesAllElse();
         faultOfTheLatest();
         DUES.end();
@@ -479,7 +480,7 @@ public final class EdgesOfTextTest {
         BoxedHeirs x = Dues.duchyOf(text);
         x.sit(0, 2);
         x.sit(1, 0);
-        x.bar(1);
+        x.bar(2);
         x.damp(2, true);
         x.see(0, true);
         x.write(0, 1);
@@ -487,7 +488,7 @@ public final class EdgesOfTextTest {
         x.keep(0);
         x.keep(1);
         x.bar(1);
-        int[] ahead = {1, 3, 2, 0, 2, 3, 3, 4, 4, 1, 1, 1, 1, 1};
+        int[] ahead = {1, 3, 2, 0, 3, 3, 3, 4, 4, 1, 1, 1, 1, 1};
         for (int what = 0; what < ahead.length; what++) {
             due("ahead of it, told(" + what + ")", x.told(what), ahead[what]);
         }
@@ -510,6 +511,25 @@ public final class EdgesOfTextTest {
         due("judge()", x.judge(), Dues.NONE);
         due("seed(0)", x.seed(0), 4711);
         due("tear()", x.tear(), 0);
+        x.see(0, false);
+        due("what lifted ahead is forgotten", x.catches(5), 8 | 16);
+    }
+
+    private static void textsCountForThemselves() {
+        DUES.sentence("THE TEXT becomes THE DUCHY (nothing of an earlier one counts)");
+        BoxedHeirs x = new BoxedHeirs();
+        String full = SEVEN + "i0 1;i0 2;i0 3;i0 4;i0 5;i0 6;r1;r1;r1;r1;r1;r1;";
+        Dues.feedAll(x, full + "x");
+        due("duchy() with a fault behind all that may be", x.duchy(), -11);
+        Dues.feedAll(x, full);
+        due("duchy() of all that may be", x.duchy(), 7);
+        Dues.feedAll(x, full);
+        due("duchy() of it once more", x.duchy(), 7);
+        Dues.feedAll(x, "d1;" + BOX + BOX);
+        due("duchy() of less", x.duchy(), 2);
+        due("in none", x.box(1, 9), Dues.NONE);
+        due("alone", x.box(0, 11), 1);
+        due("no regents", x.told(2), 0);
     }
 
     private static BoxedHeirs busy() {

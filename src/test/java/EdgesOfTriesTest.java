@@ -8,6 +8,8 @@ public final class EdgesOfTriesTest {
     public static void main(String[] args) {
         nothingChanges();
         comes();
+        comesWithinAnother();
+        comesByRust();
         comesNever();
         order();
         orderEdges();
@@ -27,6 +29,7 @@ public final class EdgesOfTriesTest {
         quietNone();
         end();
         endNever();
+        largestDuchy();
         hold();
         holdMost();
         holdFirst();
@@ -95,6 +98,40 @@ public final class EdgesOfTriesTest {
         BoxedHeirs one = Dues.duchyOf("d99;b2 0 1 3;b2 1 1 3;");
         due("at its catch now: a whole tune", one.comes(0), 2);
         due("at its catch in the next bar", one.comes(1), 1);
+    }
+
+    private static void comesWithinAnother() {
+        DUES.sentence("COMES: .. a BOX is UP first (within another)");
+        BoxedHeirs x = Dues.duchyOf("d99;b9 5 9 3;b4 1 9 3;b4 2 9 3;b9 4 9 3;i0 1;i0 2;i0 3;");
+        due("the outer", x.comes(0), 5);
+        due("in the same bar as the outer", x.comes(1), 5);
+        due("a bar later", x.comes(2), 6);
+        due("a bar too early, so a tune later", x.comes(3), 13);
+        x.bar(5);
+        due("the outer is up, it comes in the next bar", x.comes(2), 1);
+        due("the outer is up, it comes in its eighth bar", x.comes(3), 8);
+        x.push(1);
+        due("the outer is up, it is at its catch, but down: a whole tune", x.comes(1), 4);
+    }
+
+    private static void comesByRust() {
+        DUES.sentence("COMES: .. by RUST as it comes from now on");
+        for (int gone = 0; gone < 8; gone++) {
+            BoxedHeirs x = Dues.duchyOf("d4;b60 0 2 1;b60 0 2 1;b60 0 2 1;b60 0 2 1;");
+            if (gone > 0) {
+                x.bar(gone);
+            }
+            // Two rusts from now, the second of them in this bar; a heir who comes up in that very bar is not late.
+            int second = 8 - gone % 4;
+            for (int b = 0; b < 4; b++) {
+                x.oil(b);
+                Dues.windTo(x, b, 60 - second + 1 - b);
+            }
+            due("behind " + gone + ", a bar ahead of the second rust", x.comes(0), second - 1);
+            due("behind " + gone + ", in the bar of the second rust", x.comes(1), second);
+            due("behind " + gone + ", a bar later", x.comes(2), Dues.NONE);
+            due("behind " + gone + ", two bars later", x.comes(3), Dues.NONE);
+        }
     }
 
     private static void comesNever() {
@@ -357,6 +394,10 @@ public final class EdgesOfTriesTest {
         x.wind(1, 1);
         due("later again", x.told(14), 3540);
         due("one alone", Dues.duchyOf("d99;b2 1 9 3;").told(14), 2);
+        BoxedHeirs alike = Dues.duchyOf("d99;b4 0 9 3;b6 0 9 3;b5 0 9 3;");
+        due("all are there now, tunes with like parts", alike.told(14), 60);
+        alike.wind(2, 1);
+        due("4 and 6 each 12 bars, 5 in its second of them", alike.told(14), 24);
         for (int late = 9997; late <= 10001; late++) {
             BoxedHeirs edge = Dues.duchyOf("d99;b59 0 1 0;b58 0 1 0;b57 0 1 0;");
             for (int b = 0; b < 3; b++) {
@@ -377,6 +418,30 @@ public final class EdgesOfTriesTest {
         due("too late", Dues.duchyOf("d99;b60 0 9 3;b59 0 9 3;b53 0 9 3;").told(14), Dues.NONE);
         String far = "d99;b59 0 9 3;b58 0 9 3;b57 0 9 3;b55 0 9 3;b53 0 9 3;b49 0 9 3;b47 0 9 3;";
         due("far too late", Dues.duchyOf(far).told(14), Dues.NONE);
+    }
+
+    private static void largestDuchy() {
+        DUES.sentence("7 BOXES at most .. 6 REGENTS at most (tried with as many as can be)");
+        BoxedHeirs x = Dues.duchyOf("d1;b2 1 20 3;b3 1 20 3;b4 1 20 3;b5 1 20 3;b6 1 20 3;b10 1 20 3;b12 1 20 3;r19;r20;r21;r30;r1;r20;");
+        due("END", x.told(14), 60);
+        due("comes(6)", x.comes(6), 1);
+        due("order(400)", x.order(400), 1234567);
+        due("both(5, 6)", x.both(5, 6), 1);
+        due("ahead(6, 5)", x.ahead(6, 5), Dues.NONE);
+        due("quiet(60, 0)", x.quiet(60, 0), 1);
+        due("quiet(60, 1)", x.quiet(60, 1), 1);
+        due("hold(-1)", x.hold(-1), 4);
+        int[] wants = {1, 2, 3, 5, Dues.NONE, Dues.NONE, Dues.NONE};
+        for (int b = 0; b < 7; b++) {
+            due("hold(" + b + ")", x.hold(b), wants[b]);
+        }
+        due("lasts(6)", x.lasts(6), Dues.NONE);
+        due("says(77777): 60 together", x.says(77777), 8);
+        Dues.feedAll(x, "d1;b2 1 20 3;");
+        x.duchy();
+        due("END of a duchy that is less than the one ahead of it", x.told(14), 2);
+        due("order(400) of it", x.order(400), 1);
+        due("quiet(2, 0) of it", x.quiet(2, 0), 1);
     }
 
     private static void holds(String text, int... wants) {
@@ -414,6 +479,17 @@ public final class EdgesOfTriesTest {
         holds("d1;r1;r2;", 0);
         holds("d1;b9 1 1 3;", 0, -1);
         due("without a duchy", new BoxedHeirs().hold(-1), 0);
+        BoxedHeirs less = Dues.duchyOf("d1;b9 1 1 3;b9 1 1 3;b9 1 1 3;r1;r1;r1;");
+        due("three", less.hold(-1), 3);
+        Dues.feedAll(less, "d1;b9 1 1 3;b9 1 2 3;r1;r1;r1;");
+        less.duchy();
+        due("one, in a duchy that is less than the one ahead of it", less.hold(-1), 1);
+        Dues.feedAll(less, "d1;b9 1 2 3;r1;r1;r1;");
+        less.duchy();
+        due("none, in one that is less yet", less.hold(-1), 0);
+        Dues.feedAll(less, "d1;r1;r1;r1;");
+        less.duchy();
+        due("none, in one without boxes", less.hold(-1), 0);
     }
 
     private static void holdFirst() {
@@ -454,6 +530,7 @@ public final class EdgesOfTriesTest {
         x.bar(1);
         x.oil(0);
         due("oiled a bar later", x.lasts(0), 1979);
+        due("now, a bar behind the rust", x.lasts(1), 0);
         BoxedHeirs y = Dues.duchyOf("d1;b9 1 2 2;b9 1 3 2;");
         due("dry", y.lasts(0), 4);
         y.damp(0, true);
